@@ -478,7 +478,10 @@ public final class NightMove {
             }
         }
 
-        /** Only full loads are tried: one more thing in an earlier convoy always makes the price less. */
+        /**
+         * Only full loads are tried: one more thing in an earlier convoy always makes the price less. The loads
+         * fall from all that can go to the empty one, which may be the only one that fits.
+         */
         private void tryLoads(int convoy, int open, int able) {
             long before = price[open];
             price[open] = UNREACHED;

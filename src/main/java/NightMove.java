@@ -42,7 +42,7 @@ public final class NightMove {
     }
 
     public int thing(int last, int first, int load, int cost) {
-        if (settled || !within(last, 0, LAST_MINUTE) || !within(first, last, LAST_MINUTE)) {
+        if (settled || goods.isFull() || !within(last, 0, LAST_MINUTE) || !within(first, last, LAST_MINUTE)) {
             return NONE;
         }
         if (!within(load, 1, Goods.MOST_LOAD) || !within(cost, 0, Goods.MOST_COST)) {
@@ -53,7 +53,7 @@ public final class NightMove {
     }
 
     public int convoy(int leaves, int room, int limit) {
-        if (settled || !within(leaves, 0, LAST_MINUTE)) {
+        if (settled || convoys.isFull() || !within(leaves, 0, LAST_MINUTE)) {
             return NONE;
         }
         if (!within(room, 1, Convoys.MOST_ROOM) || !within(limit, 1, Convoys.MOST_LIMIT)) {
@@ -321,8 +321,12 @@ public final class NightMove {
         final int[] cost = new int[SETS];
         int told = 0;
 
+        boolean isFull() {
+            return told >= MOST;
+        }
+
         int add(int lastHere, int firstThere, int newLoad, int newCost) {
-            if (told >= MOST) {
+            if (isFull()) {
                 return NONE;
             }
             last[told] = lastHere;
@@ -368,8 +372,12 @@ public final class NightMove {
         int way = 40;
         int headway = 3;
 
+        boolean isFull() {
+            return told >= MOST;
+        }
+
         int add(int newLeaves, int newRoom, int newLimit) {
-            if (told >= MOST) {
+            if (isFull()) {
                 return NONE;
             }
             leaves[told] = newLeaves;

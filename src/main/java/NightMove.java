@@ -486,18 +486,21 @@ public final class NightMove {
             }
         }
 
-        /**
-         * Only full loads are tried: one more thing in an earlier convoy always makes the price less. The loads
-         * fall from all that can go to the empty one, which may be the only one that fits.
-         */
+        /** The loads fall from all that can go to the empty one, which may be the only one that fits. */
         private void tryLoads(int convoy, int open, int able) {
             long before = price[open];
             price[open] = UNREACHED;
-            for (int load = able; load >= 0; load = load == 0 ? -1 : (load - 1) & able) {
-                if (fits(convoy, load) && !fitsOneMore(convoy, load, able)) {
-                    int left = open ^ load;
-                    price[left] = Math.min(price[left], before + (long) convoy * code[load]);
-                }
+            for (int load = able; load > 0; load = (load - 1) & able) {
+                tryLoad(convoy, open, able, load, before);
+            }
+            tryLoad(convoy, open, able, 0, before);
+        }
+
+        /** Only a full load is taken: one more thing in an earlier convoy always makes the price less. */
+        private void tryLoad(int convoy, int open, int able, int load, long before) {
+            if (fits(convoy, load) && !fitsOneMore(convoy, load, able)) {
+                int left = open ^ load;
+                price[left] = Math.min(price[left], before + (long) convoy * code[load]);
             }
         }
 

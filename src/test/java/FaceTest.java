@@ -83,11 +83,20 @@ public final class FaceTest {
                 Check.due(method + " has a public name", publicNames.contains(method.getName()), false);
                 Check.due(method + " takes at most seven", method.getParameterCount() <= 7, true);
             }
+            Check.due(c + " has some twenty fields at most", fieldsOf(c) <= 20, true);
             for (Field field : c.getDeclaredFields()) {
                 boolean changes = Modifier.isStatic(field.getModifiers()) && !Modifier.isFinal(field.getModifiers());
                 Check.due(field + " is static and changes", changes, false);
             }
         }
+    }
+
+    private static int fieldsOf(Class<?> c) {
+        int found = 0;
+        for (Field field : c.getDeclaredFields()) {
+            found += Modifier.isStatic(field.getModifiers()) ? 0 : 1;
+        }
+        return found;
     }
 
     private static void text() throws IOException {
